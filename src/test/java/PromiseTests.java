@@ -322,6 +322,19 @@ public final class PromiseTests {
         }
         due("12: older ones are lost", x.undo(), STATE);
         due("12: as after the third", x.count(5), 22);
+        for (int i = 0; i < 3; i++) {
+            x.draws(5, 2, 200 + i);
+            x.types(1, 5);
+            x.strikes(1);
+            x.sets(0, i == 1 ? 2 : 4);
+        }
+        due("12: ten of twelve", x.count(8), 10);
+        for (int i = 9; i >= 0; i--) {
+            due("12: undo of each kind", x.undo(), i);
+        }
+        due("12: as after the second", x.line(1, 0), 5);
+        due("12: as after the second", x.letter(5, 2), 200);
+        due("12: as after the second", x.count(3), 2);
         x.types(0, 2);
         due("12: one", x.undo(), 0);
         due("12: an empty line stays", x.line(0, -1), 0);
@@ -427,6 +440,31 @@ public final class PromiseTests {
         due("16: then", x.goes(1, 0), 0);
         due("16: seeks", x.way(0), 4);
         due("16: end", x.way(2), -4);
+        // spans -3 to 4, then -3: the nearer end first would cost 3 and 7
+        StrikePasses y = told("g4;da0 2 0;db0 1 0;lab;la;");
+        due("16: the farther end first", y.goes(0, 0), 1);
+        due("16: seeks", y.way(0), 4);
+        // spans 0 to 2, 0 to 2, 0 to 8: no seeks at all
+        StrikePasses z = told("da1 0 1;db0 0 1;la;la;la.b;");
+        int[] turns = {0, 1, 0};
+        for (int l = 0; l < 3; l++) {
+            due("16: to and fro", z.goes(l, 0), turns[l]);
+        }
+        due("16: no seeks", z.way(0), 0);
+        due("16: time", z.way(1), 12);
+        due("16: end", z.way(2), 8);
+    }
+
+    private static void promise16GoesPassByPass() {
+        // one needle at 0 1 2: by rest 1 pass 0 from 0 to 2, pass 1 at 1; again on the next line
+        StrikePasses x = told("da1 1 1;la;la;");
+        due("16: first pass", x.goes(0, 0), 0);
+        due("16: second pass", x.goes(0, 1), 0);
+        due("16: next line, 1 away from both ends", x.goes(1, 0), 0);
+        due("16: its second pass", x.goes(1, 1), 0);
+        due("16: seeks", x.way(0), 3);
+        due("16: time", x.way(1), 7);
+        due("16: end", x.way(2), 1);
     }
 
     private static void promise17Stands() {
@@ -435,6 +473,10 @@ public final class PromiseTests {
         due("17: odd", x.stands(0, 1, 0), -3);
         due("17: even", x.stands(0, 6, 2), 2);
         due("17: odd", x.stands(0, 7, 2), -1);
+        StrikePasses y = told("g4;da0 255 0;l.a;");
+        for (int k = 0; k < 8; k++) {
+            due("17: needle " + k, y.stands(0, k, 4), k % 2 == 0 ? 4 : 0);
+        }
         int[][] none = {{0, 0, 1}, {0, 2, 0}, {0, 0, 23}, {0, 0, 24}, {0, 0, -1}, {0, 8, 0}, {0, -1, 0}, {1, 0, 0}, {-1, 0, 0},
             {HIGH, 0, 0}, {0, HIGH, 0}, {0, 32, 0}, {0, 0, LOW}};
         for (int[] b : none) {
@@ -496,6 +538,8 @@ public final class PromiseTests {
         }
         StrikePasses y = told("r9;da255 255 255;laaaaaaaa;l.......a;");
         due("20: full", y.crowd(0, 0), 10);
+        due("20: full", y.crowd(0, 1), 0);
+        due("20: full", y.crowd(0, 2), 0);
         due("20: at the right end", y.crowd(1, 2), 14);
     }
 
@@ -610,6 +654,11 @@ public final class PromiseTests {
         due("26: none can be", x.ask(), NONE);
         StrikePasses y = told("l;l.;");
         due("26: no dots", y.ask(), 0);
+        // line 0: needles 0 and 1 have a dot each, so by 1 they are two; line 1 tells them apart
+        StrikePasses z = told("da3 0 0;db1 0 0;la;lb;");
+        z.sees(0, 1);
+        due("26: two can be", z.unseen(), 0b11);
+        due("26: two can be", z.ask(), 1);
     }
 
     private static void promise27Keep() {
@@ -701,6 +750,7 @@ public final class PromiseTests {
         promise15Span();
         promise16Goes();
         promise16GoesInTheWhole();
+        promise16GoesPassByPass();
         promise17Stands();
         promise18Way();
         promise19Wear();
