@@ -447,6 +447,19 @@ public final class BoundaryTests {
                 due("end", x.way(2), c);
             }
             due("no passes", new StrikePasses().way(2), 0);
+            // lines that were on the way once are not any more, however they went
+            Call[] goings = {y -> y.undo(), y -> y.back(0), y -> y.page()};
+            for (Call going : goings) {
+                StrikePasses y = told("da1 0 1;");
+                y.keep(0);
+                y.types(0, 0);
+                due("while it is there", y.way(1), 2);
+                going.on(y);
+                due("no lines", y.count(0), 0);
+                for (int what = 0; what < 3; what++) {
+                    due("way(" + what + ")", y.way(what), 0);
+                }
+            }
         });
         sentence(0, "or c less STAGGER for an odd one, to the greatest such (both where the first needle column stands then; it may be below 0)", () -> {
             for (int stagger = 0; stagger <= 4; stagger++) {
@@ -533,6 +546,16 @@ public final class BoundaryTests {
             }
             leastWay(told("g" + stagger + ";r9;da255 255 255;laaaaaaaa;laaaaaaaa;laaaaaaaa;laaaa;"));
         }
+        // the last pass there can be, 9 to 9 behind 0 to 10, 1 to 11, .. 8 to 18, decides by which end all of these begin
+        int[] last = dots(2, 10, 11, 12, 13, 14, 15, 16, 17, 18);
+        for (int c = 0; c < 10; c++) {
+            last[c] = 1;
+        }
+        StrikePasses x = drawn(0, 9, new int[3], new int[3], dots(0, 5), last);
+        leastWay(x);
+        due("from the right end", x.goes(3, 0), 1);
+        due("the last one", x.goes(3, 9), 0);
+        due("seeks", x.way(0), 5 + 5 + 8 + 1);
     }
 
     /** Of all ways to either end of the latest pass only the best goes on, told by its ends as a text of 0 and 1. */
